@@ -552,7 +552,10 @@ public final class NetlistBench {
             sign = -sign;
         }
         // A rest of 0 stands for a reciprocal beyond all numbers.
-        return sign * (underA == underB ? 0 : underA == 0 ? 1 : -1);
+        if (underA == underB) {
+            return 0;
+        }
+        return underA == 0 ? sign : -sign;
     }
 
     private static final class Node {

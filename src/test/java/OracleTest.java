@@ -3,6 +3,7 @@ import java.util.Random;
 /** Runs of calls drawn from fixed seeds, each answer against that of the slow bench. */
 public final class OracleTest {
     private static final int RUNS = 500;
+    private static final int WIDE_RUNS = 50;
     private static final int CALLS = 512;
     private static final int[] ODD = {-1, 0, 1, 7, 8, 20, 999, 1000, Integer.MIN_VALUE, Integer.MAX_VALUE};
 
@@ -30,6 +31,9 @@ public final class OracleTest {
         for (int seed = 0; seed < RUNS; seed++) {
             new OracleTest(seed).run();
         }
+        for (int seed = 0; seed < WIDE_RUNS; seed++) {
+            new OracleTest(seed).runWide();
+        }
         Check.end();
     }
 
@@ -55,6 +59,35 @@ public final class OracleTest {
                 ask(random.nextInt(16));
             }
         }
+    }
+
+    /** Fractions as wide as they get: one rail, and nearly all conductors great and on. */
+    private void runWide() {
+        for (int node = 0; node < 8; node++) {
+            due("addNode", () -> x.addNode(), oracle.addNode());
+        }
+        due("rail", () -> x.rail(7, true, 99), oracle.rail(7, true, 99));
+        for (int i = 0; i < 20; i++) {
+            boolean isSource = i % 7 == 6;
+            int a = i % 8;
+            int b = (a + 1 + random.nextInt(7)) % 8;
+            int size = isSource ? 99 - random.nextInt(199) : 9 - random.nextInt(2);
+            int number = i;
+            due("addElement", () -> x.addElement(isSource, a, b, size), oracle.addElement(isSource, a, b, size));
+            due("toggle", () -> x.toggle(number, 1 + 2 * number), oracle.toggle(number, 1 + 2 * number));
+            due("toggle", () -> x.toggle(number, 3 + 2 * number), oracle.toggle(number, 3 + 2 * number));
+        }
+        for (int node = 0; node < 8; node++) {
+            int told = node;
+            int time = random.nextInt(40);
+            for (boolean flag : new boolean[] {false, true}) {
+                due("potential", () -> x.potential(told, time, flag), oracle.potential(told, time, flag));
+                due("resistance", () -> x.resistance(told, 7, time, flag), oracle.resistance(told, 7, time, flag));
+                due("current", () -> x.current(told, time, flag), oracle.current(told, time, flag));
+                due("probe", () -> x.probe(told, 0, 999, flag), oracle.probe(told, 0, 999, flag));
+            }
+        }
+        due("digest", () -> x.digest(), oracle.digest());
     }
 
     private void due(String what, Check.Call call, Object want) {

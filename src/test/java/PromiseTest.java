@@ -24,7 +24,7 @@ public final class PromiseTest {
         floats();
         potential();
         potentialsOfARow();
-        sourcesOfFloatingNodes();
+        sources();
         current();
         feed();
         resistance();
@@ -32,6 +32,7 @@ public final class PromiseTest {
         nextToggle();
         probe();
         probeOfALadder();
+        probeTellsWhatDoublesCannot();
         compare();
         levels();
         digest();
@@ -420,7 +421,7 @@ public final class PromiseTest {
         due(() -> x.potential(3, 0, false), 56);
     }
 
-    private static void sourcesOfFloatingNodes() {
+    private static void sources() {
         NetlistBench x = divider();
         x.addNode();
         x.addElement(true, 3, 1, 5);
@@ -430,6 +431,12 @@ public final class PromiseTest {
         due(() -> x.feed(2, 0, true), 9);
         x.resize(2, -5);
         due(() -> x.potential(1, 0, true), 5);
+        NetlistBench y = bench(2);
+        y.addElement(true, 1, 0, 6);
+        y.addElement(false, 0, 1, 4);
+        y.rail(1, true, 1);
+        due(() -> y.potential(0, 0, true), 5);
+        due(() -> y.potential(0, 0, false), 2);
     }
 
     private static void current() {
@@ -643,6 +650,27 @@ public final class PromiseTest {
         due(() -> x.probe(1, 0, 29, false), 20);
     }
 
+    /** A conductor at the ladder's far end moves node 1, which is beyond 100, by some 10^-16 only. */
+    private static void probeTellsWhatDoublesCannot() {
+        NetlistBench x = bench(8);
+        x.rail(0, true, 99);
+        x.addElement(true, 0, 1, 1);
+        x.addElement(false, 7, 0, 1);
+        for (int i = 1; i < 7; i++) {
+            x.addElement(false, i, i + 1, 1);
+            x.addElement(false, i + 1, 0, 9);
+            x.addElement(false, i + 1, 0, 9);
+        }
+        x.toggle(1, 10);
+        x.toggle(1, 20);
+        due(() -> x.probe(1, 0, 999, true), 10);
+        due(() -> x.probe(1, 0, 999, false), 0);
+        due(() -> x.probe(1, 15, 999, false), 20);
+        x.resize(0, -1);
+        due(() -> x.probe(1, 0, 999, true), 0);
+        due(() -> x.probe(1, 0, 999, false), 10);
+    }
+
     private static void compare() {
         NetlistBench x = divider();
         x.addElement(true, 0, 1, 4);
@@ -695,6 +723,11 @@ public final class PromiseTest {
         x.rail(2, false, 0);
         x.rail(3, false, 0);
         due(() -> x.levels(0), 0);
+        NetlistBench full = bench(8);
+        for (int node = 0; node < 8; node++) {
+            full.rail(node, true, node % 7);
+        }
+        due(() -> full.levels(0), 7);
         for (int time : BAD_TIMES) {
             due(() -> x.levels(time), ARGUMENT);
         }
@@ -724,6 +757,20 @@ public final class PromiseTest {
             0, 1, 6, 1, 10, 1, -1,
             0, 1, 63, 5, 10, 1, -1};
         due(() -> x.digest(), sum(switched));
+        digestOfToggleAtOne();
+    }
+
+    private static void digestOfToggleAtOne() {
+        NetlistBench x = divider();
+        x.toggle(0, 1);
+        x.toggle(1, 2);
+        long[] circuit = {
+            3, 2, 2, 2, 1, 0, 1,
+            0, 2, 1, 3, 1, 1, 1,
+            0, 1, 0, 2, 1, 1, 2,
+            0, 1, 6, 1, 10, 1,
+            0, 1, 0, 1, 10, 1};
+        due(() -> x.digest(), sum(circuit));
     }
 
     private static long sum(long[] numbers) {
