@@ -539,9 +539,10 @@ public final class NetlistBench {
         long underB = lowerB;
         int sign = 1;
         for (int step = 0; step < MOST_EUCLID_STEPS && underA != 0 && underB != 0; step++) {
-            int order = Long.compare(Math.floorDiv(a, underA), Math.floorDiv(b, underB));
-            if (order != 0) {
-                return sign * order;
+            long wholeA = Math.floorDiv(a, underA);
+            long wholeB = Math.floorDiv(b, underB);
+            if (wholeA != wholeB) {
+                return wholeA > wholeB ? sign : -sign;
             }
             long restA = Math.floorMod(a, underA);
             long restB = Math.floorMod(b, underB);
@@ -711,8 +712,9 @@ public final class NetlistBench {
         }
 
         void solve() {
+            int all = allColumns();
             minors[0] = 1;
-            for (int columns = 1; columns < allColumns(); columns++) {
+            for (int columns = 1; columns < all; columns++) {
                 minors[columns] = expand(columns);
             }
         }

@@ -5,6 +5,7 @@ final class Check {
     static final String STATE = "throws.IllegalStateException";
 
     private static final int MOST_PRINTED = 50;
+    private static String heading = "";
     private static int looked = 0;
     private static int wrong = 0;
 
@@ -13,6 +14,15 @@ final class Check {
     }
 
     private Check() {
+    }
+
+    /** What stands ahead of every answer told from now on. */
+    static void under(String words) {
+        heading = words;
+    }
+
+    static int looked() {
+        return looked;
     }
 
     /** The answer as a text; an exception by its name, and as foreign if the class itself did not throw it. */
@@ -30,12 +40,25 @@ final class Check {
         due(place(), outcome(call), String.valueOf(want));
     }
 
+    /** A fraction, that the call tells part by part. */
+    static void dueFraction(Part call, long upper, long lower) {
+        due(place() + ", numerator", outcome(() -> call.answer(true)), String.valueOf(upper));
+        due(place() + ", denominator", outcome(() -> call.answer(false)), String.valueOf(lower));
+    }
+
+    /** Any answer but this one, and no foreign exception. */
+    static void dueOther(String what, Call call, String unwanted) {
+        String got = outcome(call);
+        boolean isFine = !got.equals(unwanted) && !got.endsWith("(foreign)");
+        due(what, isFine ? "another" : got, "another");
+    }
+
     static void due(String what, String got, String want) {
         looked++;
         if (!got.equals(want)) {
             wrong++;
             if (wrong <= MOST_PRINTED) {
-                System.out.println(what + ": answered " + got + ", due is " + want);
+                System.out.println(heading + what + ": answered " + got + ", due is " + want);
             }
         }
     }
@@ -50,10 +73,14 @@ final class Check {
 
     private static String place() {
         for (StackTraceElement element : new Throwable().getStackTrace()) {
-            if (!element.getClassName().equals("Check") && !element.getMethodName().equals("due")) {
+            if (!element.getClassName().equals("Check") && !element.getMethodName().startsWith("due")) {
                 return element.getFileName() + ":" + element.getLineNumber();
             }
         }
         return "?";
+    }
+
+    interface Part {
+        Object answer(boolean isUpper);
     }
 }

@@ -4,6 +4,7 @@ import java.util.Random;
 public final class OracleTest {
     private static final int RUNS = 500;
     private static final int WIDE_RUNS = 50;
+    /** What an object answers later on is not promised. */
     private static final int CALLS = 512;
     private static final int[] ODD = {-1, 0, 1, 7, 8, 20, 999, 1000, Integer.MIN_VALUE, Integer.MAX_VALUE};
 
@@ -192,7 +193,7 @@ public final class OracleTest {
             case 14 -> compare(node, time);
             default -> {
                 due("levels", () -> x.levels(time), oracle.levels(time));
-                if (flag) {
+                if (flag && done < CALLS) {
                     due("digest", () -> x.digest(), oracle.digest());
                 }
             }

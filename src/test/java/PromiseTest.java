@@ -45,21 +45,11 @@ public final class PromiseTest {
     }
 
     private static NetlistBench bench(int nodes) {
-        NetlistBench x = new NetlistBench();
-        for (int i = 0; i < nodes; i++) {
-            x.addNode();
-        }
-        return x;
+        return Benches.of(nodes);
     }
 
-    /** Node 0 at 0, node 2 at 10, node 1 between them: conductor 0 (2 to 1) of 3, conductor 1 (1 to 0) of 2. */
     private static NetlistBench divider() {
-        NetlistBench x = bench(3);
-        x.rail(0, true, 0);
-        x.rail(2, true, 10);
-        x.addElement(false, 2, 1, 3);
-        x.addElement(false, 1, 0, 2);
-        return x;
+        return Benches.divider();
     }
 
     private static void newObject() {

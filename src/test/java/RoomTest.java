@@ -6,42 +6,53 @@ public final class RoomTest {
     /** 7.3 million elements of at least a byte each are the room; a bench shall need a small part of it. */
     private static final long MOST_BYTES = 200_000;
 
+    private static final int KINDS = 7;
+
     public static void main(String[] args) {
-        fullBench().digest();
-        int seen = 0;
-        long before = allocated();
-        NetlistBench x = fullBench();
-        for (int call = 0; call < CALLS; call++) {
-            seen += x.probe(call % 8, 0, 999, call % 2 == 0);
-            seen += (int) x.digest() + x.levels(call) + (int) x.power(call);
-            seen += (int) x.resistance(0, 7, call, true) + (int) x.feed(0, call, true);
+        for (int kind = 0; kind < KINDS; kind++) {
+            run(kind);
         }
-        long made = allocated() - before;
-        Check.due("bytes made: " + made + " (" + seen + ")", "" + (made < MOST_BYTES), "true");
+        for (int kind = 0; kind < KINDS; kind++) {
+            int told = kind;
+            long before = allocated();
+            long seen = run(told);
+            long made = allocated() - before;
+            Check.due("kind " + told + ", bytes made: " + made + " (" + seen + ")", "" + (made < MOST_BYTES), "true");
+        }
         Check.end();
+    }
+
+    /** All calls that are left, when the bench is full, are of one kind. */
+    private static long run(int kind) {
+        NetlistBench x = Benches.crowded();
+        long seen = 0;
+        for (int call = Benches.CALLS_FOR_CROWDED; call < CALLS; call++) {
+            seen += ask(x, kind, call);
+        }
+        return seen;
+    }
+
+    private static long ask(NetlistBench x, int kind, int call) {
+        switch (kind) {
+            case 0:
+                return x.probe(call % 8, 0, 999, call % 2 == 0);
+            case 1:
+                return x.digest();
+            case 2:
+                return x.levels(call);
+            case 3:
+                return (long) x.power(call);
+            case 4:
+                return x.resistance(0, 7, 0, call % 2 == 0);
+            case 5:
+                return x.feed(0, call, true);
+            default:
+                return x.toggle(call % 20, 1);
+        }
     }
 
     private static long allocated() {
         return ((com.sun.management.ThreadMXBean) ManagementFactory.getThreadMXBean())
             .getThreadAllocatedBytes(Thread.currentThread().getId());
-    }
-
-    /** 8 nodes in a ring with spokes, 20 elements, and toggles of sources alone at 6 times each. */
-    private static NetlistBench fullBench() {
-        NetlistBench x = new NetlistBench();
-        for (int node = 0; node < 8; node++) {
-            x.addNode();
-        }
-        x.rail(0, true, 99);
-        for (int i = 0; i < 16; i++) {
-            x.addElement(false, i % 8, (i + 1 + i / 8) % 8, 9);
-        }
-        for (int i = 0; i < 4; i++) {
-            int source = x.addElement(true, i, i + 4, 99);
-            for (int k = 1; k <= 6; k++) {
-                x.toggle(source, 100 * k + i);
-            }
-        }
-        return x;
     }
 }
